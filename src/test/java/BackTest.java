@@ -6,6 +6,7 @@ public final class BackTest {
     public static void main(String[] args) {
         undoesEachChange();
         undoesServices();
+        goesBackToCountsAboveZero();
         undoesEnds();
         afterWhatFailed();
         haltedStates();
@@ -60,6 +61,29 @@ public final class BackTest {
         CHECK.due("run(5)", x.run(5), 5);
         CHECK.due("the same again", x.get(10), 5);
         CHECK.due("output(0)", x.output(0), 200);
+    }
+
+    /** As marks change what is a unit, units are not told by steps. */
+    private static void goesBackToCountsAboveZero() {
+        StepMachine x = Load.machine(Load.ecall(), Load.nop(), Load.jal(0, -6));
+        x.set(17, 2);
+        x.input(8, 0x0102030405060708L);
+        x.mark(0, true);
+        x.marking(true);
+        CHECK.due("run(5)", x.run(5), 5);
+        CHECK.due("state(3)", x.state(3), 15);
+        int[] units = {5, 5, 5, 4, 4, 4, 3, 3, 3, 2, 2, 2, 1, 1, 1, 0};
+        int[] left = {3, 3, 3, 4, 4, 4, 5, 5, 5, 6, 6, 6, 7, 7, 7, 8};
+        for (int k = 0; k < 15; k++) {
+            CHECK.due("state(4), " + k + " undone", x.state(4), units[k]);
+            CHECK.due("state(6), " + k + " undone", x.state(6), left[k]);
+            CHECK.due("state(3), " + k + " undone", x.state(3), 15 - k);
+            CHECK.due("back(1)", x.back(1), 1);
+        }
+        CHECK.due("state(4)", x.state(4), 0);
+        CHECK.due("state(6)", x.state(6), 8);
+        CHECK.due("run(2)", x.run(2), 2);
+        CHECK.due("get(10)", x.get(10), 2);
     }
 
     private static void undoesEnds() {

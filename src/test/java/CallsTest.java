@@ -10,7 +10,9 @@ public final class CallsTest {
         segments();
         segmentsRefused();
         marks();
+        marksOfNeighbours();
         pokes();
+        pokeLeavesTheOthers();
         registers();
         inputs();
         inputsTakenCount();
@@ -84,6 +86,35 @@ public final class CallsTest {
         }
         CHECK.due("rights(131072)", x.rights(SIZE), 0);
         CHECK.due("rights(-2)", x.rights(-2), 0);
+    }
+
+    private static void marksOfNeighbours() {
+        StepMachine x = new StepMachine();
+        for (int at = 0; at < 400; at += 6) {
+            x.mark(at, true);
+        }
+        for (int at = 0; at < 400; at += 12) {
+            x.mark(at, false);
+        }
+        for (int at = 0; at < 400; at++) {
+            CHECK.due("rights(" + at + ")", x.rights(at), at % 12 == 6 ? 8 : 0);
+        }
+    }
+
+    private static void pokeLeavesTheOthers() {
+        for (int at = 8; at < 16; at++) {
+            for (int n = 1; n <= 8; n++) {
+                StepMachine x = new StepMachine();
+                for (int k = 0; k < 32; k += 8) {
+                    x.poke(k, 8, -1L);
+                }
+                x.poke(at, n, 0x0102030405060708L);
+                for (int k = 0; k < 32; k++) {
+                    int want = k >= at && k < at + n ? k - at + 1 : 255;
+                    CHECK.due("peek(" + k + ") after poke(" + at + ", " + n + ")", x.peek(k), want);
+                }
+            }
+        }
     }
 
     private static void pokes() {

@@ -16,6 +16,7 @@ public final class LongWordsTest {
         jumps();
         loads();
         stores();
+        fence();
         registerZero();
         sameRegisters();
         wordsOfNoKind();
@@ -249,6 +250,19 @@ public final class LongWordsTest {
             }
             CHECK.due(name + ": PC", x.get(32), 4);
         }
+    }
+
+    private static void fence() {
+        StepMachine x = Load.machine(0x0ff0000f);
+        for (int r = 1; r < 32; r++) {
+            x.set(r, r);
+        }
+        CHECK.due("fence: step()", x.step(), 0);
+        for (int r = 1; r < 32; r++) {
+            CHECK.due("fence: get(" + r + ")", x.get(r), r);
+        }
+        CHECK.due("fence: PC", x.get(32), 4);
+        CHECK.due("fence: steps", x.state(3), 1);
     }
 
     private static void registerZero() {

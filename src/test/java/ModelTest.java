@@ -7,7 +7,7 @@ import java.util.Random;
 public final class ModelTest {
 
     private static final Check CHECK = new Check("ModelTest");
-    private static final int RUNS = 1200;
+    private static final int RUNS = 600;
     private static final int CALLS = 300;
     private static final int BASE = 256;
     private static final int SPAN = 512;

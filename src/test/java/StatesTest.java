@@ -19,6 +19,7 @@ public final class StatesTest {
         branchesNotTakenNeedNoMark();
         stepFromHalted();
         programWritesItself();
+        exampleOfTheReadme();
         CHECK.end();
     }
 
@@ -329,6 +330,18 @@ public final class StatesTest {
         z.run(5);
         z.set(33, 0);
         dueState("the state is set", z, 0, 0, 2, 1);
+    }
+
+    private static void exampleOfTheReadme() {
+        StepMachine x = new StepMachine();
+        x.segment(0, 0, 64, 5);
+        x.poke(0, 8, 0x1305700273000000L);
+        x.set(17, 10);
+        CHECK.due("run(100)", x.run(100), 2);
+        CHECK.due("state(0)", x.state(0), 8);
+        CHECK.due("state(2)", x.state(2), 39);
+        CHECK.due("back(1)", x.back(1), 1);
+        CHECK.due("state(0)", x.state(0), 0);
     }
 
     private static void programWritesItself() {
