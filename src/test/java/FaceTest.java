@@ -5,14 +5,14 @@ import java.lang.reflect.Modifier;
 import java.util.Set;
 import java.util.TreeSet;
 
-/** The public face, and promise 1: a new object. */
+/** The public face, as the document and LANGUAGE.md have it, and the example of README.md. */
 public final class FaceTest {
 
     private static final Check CHECK = new Check("FaceTest");
 
     public static void main(String[] args) {
         faceIsTheDocuments();
-        newObjectIsEmpty();
+        exampleOfTheReadme();
         CHECK.end();
     }
 
@@ -46,31 +46,15 @@ public final class FaceTest {
         }
     }
 
-    private static void newObjectIsEmpty() {
+    private static void exampleOfTheReadme() {
         StepMachine x = new StepMachine();
-        for (int r = -2; r < 40; r++) {
-            CHECK.due("get(" + r + ")", x.get(r), 0);
-        }
-        for (int what = 0; what <= 8; what++) {
-            CHECK.due("state(" + what + ")", x.state(what), 0);
-        }
-        CHECK.due("output(0)", x.output(0), -1);
-        for (int at = 0; at < 131072; at++) {
-            if (x.peek(at) != 0 || x.rights(at) != 0) {
-                CHECK.due("peek and rights of " + at, x.peek(at) + x.rights(at), 0);
-            }
-        }
-        CHECK.due("marking is off: back to back jumps", jumpsWithoutMarks(), 0);
-        CHECK.due("back(1)", x.back(1), 0);
-        CHECK.due("step()", x.step(), 1);
-        CHECK.due("state(1)", x.state(1), 0);
-        CHECK.due("state(3)", x.state(3), 0);
-    }
-
-    private static int jumpsWithoutMarks() {
-        StepMachine x = new StepMachine();
-        x.segment(0, 0, 8, 4);
-        x.poke(0, 2, 0x01a0L << 48);
-        return x.step();
+        x.segment(0, 0, 64, 5);
+        x.poke(0, 8, 0x1305700273000000L);
+        x.set(17, 10);
+        CHECK.due("run(100)", x.run(100), 2);
+        CHECK.due("state(0)", x.state(0), 8);
+        CHECK.due("state(2)", x.state(2), 39);
+        CHECK.due("back(1)", x.back(1), 1);
+        CHECK.due("state(0)", x.state(0), 0);
     }
 }

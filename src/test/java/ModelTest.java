@@ -1,22 +1,24 @@
 import java.util.Random;
 
 /**
- * Runs of calls by chance (the same each time) on the class and on the model. They are longer
- * than the 512 calls that are promised: the class has no such end.
+ * Runs of calls by chance (the same each time) on the class and on the model, each of 512 calls,
+ * which is as far as the document goes.
  */
 public final class ModelTest {
 
     private static final Check CHECK = new Check("ModelTest");
-    private static final int RUNS = 600;
-    private static final int CALLS = 300;
+    private static final int RUNS = 1200;
+    private static final int CALLS = 512;
+    private static final int LAST_QUESTIONS = 100;
     private static final int BASE = 256;
-    private static final int SPAN = 512;
+    private static final int SPAN = 256;
 
     private final Random chance;
     private final StepMachine x = new StepMachine();
     private final Model model = new Model();
     private final int seed;
     private final int region;
+    private int calls;
 
     private ModelTest(int seed) {
         this.seed = seed;
@@ -33,27 +35,26 @@ public final class ModelTest {
 
     private void go() {
         prepare();
-        for (int k = 0; k < CALLS && CHECK.isClean(); k++) {
+        while (calls < CALLS - LAST_QUESTIONS && CHECK.isClean()) {
             boolean hasEnded = model.state(0) != 0 && model.state(0) != 9;
             if (hasEnded && chance.nextBoolean()) {
                 goOnFromAnEnd();
             } else {
                 call();
             }
-            compareFew();
-            if (k % 20 == 0) {
-                compareAll();
-            }
+            ask();
+            ask();
         }
-        compareAll();
+        askAll();
     }
 
     private void due(String call, long got, long want) {
-        CHECK.due("seed " + seed + ": " + call, got, want);
+        calls++;
+        CHECK.due("seed " + seed + ", call " + calls + ": " + call, got, want);
     }
 
     private void due(String call, boolean got, boolean want) {
-        CHECK.due("seed " + seed + ": " + call, got, want);
+        due(call, got ? 1L : 0L, want ? 1L : 0L);
     }
 
     private void prepare() {
@@ -63,22 +64,37 @@ public final class ModelTest {
         }
         set(17, chance.nextInt(4));
         set(32, region);
-        for (int at = region; at < region + SPAN - 8; at += 2) {
+        for (int at = region; at < region + SPAN; at += 2) {
             if (chance.nextInt(3) == 0) {
                 mark(at, true);
             }
         }
-        for (int at = region; at < region + SPAN - 8; ) {
-            at += writeWord(at);
+        writeProgram();
+    }
+
+    private void writeProgram() {
+        byte[] program = new byte[SPAN + 4];
+        int next = 0;
+        while (next < SPAN) {
+            int w = Kinds.write(randomParts());
+            int n = (w & 3) == 3 ? 4 : 2;
+            for (int k = 0; k < n; k++) {
+                program[next + k] = (byte) (w >>> 8 * k);
+            }
+            next += n;
+        }
+        for (int at = 0; at < SPAN; at += 8) {
+            long eight = 0;
+            for (int k = 0; k < 8; k++) {
+                eight = eight << 8 | program[at + k] & 255;
+            }
+            poke(region + at, 8, eight);
         }
     }
 
-    private int writeWord(int at) {
-        Kinds.Parts parts = randomParts();
-        int w = Kinds.write(parts);
-        int n = (w & 3) == 3 ? 4 : 2;
-        poke(at, n, (long) Integer.reverseBytes(w) << 32);
-        return n;
+    private void writeWord(int at) {
+        int w = Kinds.write(randomParts());
+        poke(at, (w & 3) == 3 ? 4 : 2, (long) Integer.reverseBytes(w) << 32);
     }
 
     private Kinds.Parts randomParts() {
@@ -167,6 +183,7 @@ public final class ModelTest {
     }
 
     private void marking(boolean on) {
+        calls++;
         x.marking(on);
         model.marking(on);
     }
@@ -199,27 +216,41 @@ public final class ModelTest {
         due("back(" + n + ")", x.back(n), model.back(n));
     }
 
-    private void compareFew() {
-        for (int what = -1; what < 10; what++) {
-            due("state(" + what + ")", x.state(what), model.state(what));
+    private void ask() {
+        switch (chance.nextInt(6)) {
+            case 0: case 1: askState(chance.nextInt(11) - 1); break;
+            case 2: case 3: askRegister(chance.nextInt(36) - 1); break;
+            case 4: askPlace(place()); break;
+            default: askOutput(chance.nextInt(Math.max(4, model.state(5) + 2)) - 1); break;
         }
-        for (int r = -1; r < 34; r++) {
-            due("get(" + r + ")", x.get(r), model.get(r));
-        }
-        int at = place();
-        due("peek(" + at + ")", x.peek(at), model.peek(at));
-        due("rights(" + at + ")", x.rights(at), model.rights(at));
-        int k = chance.nextInt(8) - 1;
-        due("output(" + k + ")", x.output(k), model.output(k));
     }
 
-    private void compareAll() {
-        for (int at = region - 4; at < region + SPAN + 4; at++) {
-            due("peek(" + at + ")", x.peek(at), model.peek(at));
-            due("rights(" + at + ")", x.rights(at), model.rights(at));
+    private void askAll() {
+        for (int what = 0; what <= 8; what++) {
+            askState(what);
         }
-        for (int k = 0; k <= model.state(5); k++) {
-            due("output(" + k + ")", x.output(k), model.output(k));
+        for (int r = 1; r <= 32; r++) {
+            askRegister(r);
         }
+        while (calls < CALLS - 1) {
+            askPlace(region + chance.nextInt(SPAN));
+        }
+    }
+
+    private void askState(int what) {
+        due("state(" + what + ")", x.state(what), model.state(what));
+    }
+
+    private void askRegister(int r) {
+        due("get(" + r + ")", x.get(r), model.get(r));
+    }
+
+    private void askPlace(int at) {
+        due("peek(" + at + ")", x.peek(at), model.peek(at));
+        due("rights(" + at + ")", x.rights(at), model.rights(at));
+    }
+
+    private void askOutput(int k) {
+        due("output(" + k + ")", x.output(k), model.output(k));
     }
 }
