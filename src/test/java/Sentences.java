@@ -16,6 +16,7 @@ final class Sentences {
     private final String text;
     private final boolean[] isQuoted;
     private String now = "";
+    private int count;
 
     Sentences(String test) {
         check = new Check(test);
@@ -34,6 +35,7 @@ final class Sentences {
     /** Says which words of the document, under which heading, the checks that follow are for. */
     void says(String heading, String... quotes) {
         now = heading + ", '" + quotes[0] + "'";
+        count++;
         int from = text.indexOf("## " + heading);
         int next = text.indexOf("\n## ", from);
         int to = next < 0 ? text.length() : next;
@@ -78,7 +80,7 @@ final class Sentences {
     }
 
     void end() {
-        now = "the document";
+        System.out.println(count + " sentences, each with its test");
         for (String line : text.split("\n")) {
             dueQuoted(line, text.indexOf(line));
         }

@@ -106,6 +106,14 @@ final class ShortSentences {
         dueRegisters(name(w), x, d, AT + 2);
     }
 
+    /** From an odd address in register 31, i 0 comes to the even one below it, i 1 would not. */
+    private void dueOddJump(int w) {
+        StepMachine x = machine(w);
+        x.set(31, 1001);
+        s.due(name(w) + ": step()", x.step(), 0);
+        s.due(name(w) + " to 1001: get(32)", x.get(32), 1000);
+    }
+
     private void dueBranch(int w, int a, int i, boolean isTakenAtZero) {
         StepMachine x = machine(w);
         s.due(name(w) + ": step()", x.step(), 0);
@@ -146,6 +154,8 @@ final class ShortSentences {
                 "behind = the long one for which it stands (parts not told there are its own; its i is i, where it has none 0):");
         dueChange(0b100_0_00001_11111_10, 1, 256 * 31);
         dueJump(0b100_0_11111_00000_10, 256 * 31, 0);
+        dueOddJump(0b100_0_11111_00000_10);
+        dueOddJump(0b100_1_11111_00000_10);
         for (int top : new int[] {0b001, 0b011, 0b100, 0b101, 0b111}) {
             s.dueIllegal(top << 13 | 0b00100);
         }
@@ -373,6 +383,7 @@ final class ShortSentences {
         s.says("Terms", "69 c.jr 100 0 a 00000 10 = jalr with d 0.");
         dueJump(0b100_0_00001_00000_10, 256, 0);
         dueJump(0b100_0_11111_00000_10, 256 * 31, 0);
+        dueOddJump(0b100_0_11111_00000_10);
         s.dueIllegal(0b100_0_00000_00000_10);
     }
 
@@ -397,6 +408,7 @@ final class ShortSentences {
         s.says("Terms", "72 c.jalr 100 1 a 00000 10 = jalr with d 1.");
         dueJump(0b100_1_00001_00000_10, 256, 1);
         dueJump(0b100_1_11111_00000_10, 256 * 31, 1);
+        dueOddJump(0b100_1_11111_00000_10);
     }
 
     private void add() {
