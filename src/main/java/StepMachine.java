@@ -800,8 +800,8 @@ public final class StepMachine {
         }
 
         Kept open() {
-            Kept row = ring[next];
-            next = next < MOST - 1 ? next + 1 : 0;
+            Kept row = ring[place(next)];
+            next = place(next + 1);
             if (count < MOST) {
                 count++;
             }
@@ -813,12 +813,16 @@ public final class StepMachine {
                 return null;
             }
             count--;
-            next = next > 0 ? next - 1 : MOST - 1;
+            next = place(next - 1);
             return ring[next];
         }
 
         void forget() {
             count = 0;
+        }
+
+        private static int place(int k) {
+            return Math.floorMod(k, MOST);
         }
     }
 

@@ -316,9 +316,30 @@ final class CallSentences {
             s.due("set(32, " + (pc + 1) + ")", x.set(32, pc + 1), false);
             s.due("get(32)", x.get(32), pc);
         }
-        s.due("step()", x.step(), 1);
-        s.due("set(32, 4) in an END", x.set(32, 4), true);
-        s.due("the STATE stays", x.state(0), 1);
+        pcAloneIsSet();
+    }
+
+    /** For r 32 the document names PC alone: neither the STATE nor the CULPRIT becomes another. */
+    private void pcAloneIsSet() {
+        int[][] rows = {{Load.nop(), 0, 0, 0}, {-1, 0, 1, 4}, {0x0000, 0, 2, 4}, {Kinds.word("lw", 0, 0, 0, 6), 0, 3, 6},
+            {Kinds.word("sw", 0, 0, 0, 6), 0, 4, 6}, {Load.jal(0, 2), 0, 5, 6}, {Load.ebreak(), 0, 6, 4},
+            {Load.ecall(), 0, 7, 4}, {Load.ecall(), 10, 8, 4}, {Load.nop(), 0, 9, 6}};
+        for (int[] row : rows) {
+            StepMachine x = Load.machine(Load.nop(), Load.nop(), row[0], Load.nop());
+            x.segment(0, 0, row[2] == 1 ? 4 : 4096, 7);
+            x.set(17, row[1]);
+            x.marking(row[2] == 5);
+            x.halt(6, row[2] == 9);
+            x.set(32, 4);
+            x.run(1);
+            int steps = x.state(3);
+            for (int pc : new int[] {64, SIZE, -2}) {
+                s.due("set(32, " + pc + ") in STATE " + row[2], x.set(32, pc), true);
+                s.dueState("set(32, " + pc + ")", x, row[2], row[3], pc, steps);
+                s.due("set(32, 1) in STATE " + row[2], x.set(32, 1), false);
+                s.dueState("set(32, 1)", x, row[2], row[3], pc, steps);
+            }
+        }
     }
 
     private void setState() {

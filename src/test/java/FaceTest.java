@@ -2,59 +2,109 @@ import java.lang.reflect.Constructor;
 import java.lang.reflect.Field;
 import java.lang.reflect.Method;
 import java.lang.reflect.Modifier;
-import java.util.Set;
-import java.util.TreeSet;
+import java.util.ArrayList;
+import java.util.Collections;
+import java.util.List;
 
-/** The public face, as the document and LANGUAGE.md have it, and the example of README.md. */
+/** The public face: the one class, its constant, its constructor, its fifteen methods, no more. */
 public final class FaceTest {
 
     private static final Check CHECK = new Check("FaceTest");
 
-    public static void main(String[] args) {
+    private FaceTest() {
+    }
+
+    public static void main(String[] args) throws Exception {
         faceIsTheDocuments();
-        exampleOfTheReadme();
+        promisesHaveTheFace();
+        classIsPublicAndFinal();
+        constantIsNone();
+        otherMembersArePrivate();
+        methodsThrowNothing();
         CHECK.end();
     }
 
     private static void faceIsTheDocuments() {
-        Set<String> want = new TreeSet<>(Set.of(
-                "boolean segment[int, int, int, int]", "boolean mark[int, boolean]", "void marking[boolean]",
-                "boolean poke[int, int, long]", "int peek[int]", "boolean set[int, int]", "int get[int]",
-                "boolean input[int, long]", "boolean halt[int, boolean]", "int step[]", "int run[int]",
-                "int back[int]", "int state[int]", "int output[int]", "int rights[int]"));
-        Set<String> publicNames = new TreeSet<>();
-        Set<String> seen = new TreeSet<>();
+        List<String> want = new ArrayList<>();
+        for (String member : Document.face()) {
+            want.add(withoutNames(member));
+        }
+        CHECK.due("members of the document's face", want.size(), 17);
+        CHECK.due("methods of the document's face", Document.calls().size(), 15);
+        List<String> seen = publicMembers();
+        Collections.sort(want);
+        Collections.sort(seen);
+        CHECK.due("the face " + seen + " is " + want, seen.equals(want), true);
+    }
+
+    /** 'public int peek(int at)' as 'public int peek(int)'. */
+    private static String withoutNames(String member) {
+        return member.replaceAll("(\\w+) \\w+(?=[,)])", "$1").replaceAll(" = .*", "");
+    }
+
+    private static List<String> publicMembers() {
+        List<String> seen = new ArrayList<>();
         for (Method m : StepMachine.class.getDeclaredMethods()) {
-            if (!Modifier.isPrivate(m.getModifiers())) {
-                publicNames.add(m.getName());
-                seen.add(m.getReturnType() + " " + m.getName() + java.util.Arrays.toString(m.getParameterTypes()));
-                CHECK.due(m + " is public", Modifier.isPublic(m.getModifiers()), true);
+            if (Modifier.isPublic(m.getModifiers())) {
+                seen.add(Modifier.toString(m.getModifiers()) + " " + m.getReturnType() + " " + m.getName() + types(m.getParameterTypes()));
             }
         }
-        CHECK.due("methods " + seen, seen.equals(want), true);
+        for (Constructor<?> c : StepMachine.class.getDeclaredConstructors()) {
+            seen.add(Modifier.toString(c.getModifiers()) + " StepMachine" + types(c.getParameterTypes()));
+        }
         for (Field f : StepMachine.class.getDeclaredFields()) {
-            CHECK.due(f + " is private", Modifier.isPrivate(f.getModifiers()), !f.getName().equals("NONE"));
-        }
-        Constructor<?>[] constructors = StepMachine.class.getDeclaredConstructors();
-        CHECK.due("constructors", constructors.length, 1);
-        CHECK.due("final", Modifier.isFinal(StepMachine.class.getModifiers()), true);
-        CHECK.due("NONE", StepMachine.NONE, -1);
-        for (Class<?> c : StepMachine.class.getDeclaredClasses()) {
-            for (Method m : c.getDeclaredMethods()) {
-                CHECK.due(m + " bears a public name", publicNames.contains(m.getName()), false);
+            if (Modifier.isPublic(f.getModifiers())) {
+                seen.add(Modifier.toString(f.getModifiers()) + " " + f.getType() + " " + f.getName());
             }
+        }
+        return seen;
+    }
+
+    private static String types(Class<?>[] parameters) {
+        List<String> names = new ArrayList<>();
+        for (Class<?> c : parameters) {
+            names.add(c.getName());
+        }
+        return "(" + String.join(", ", names) + ")";
+    }
+
+    private static void promisesHaveTheFace() {
+        String text = Document.text();
+        for (String call : Document.calls()) {
+            String name = call.substring(0, call.indexOf('('));
+            CHECK.due("a promise tells of " + call, text.contains(": " + name + "\n") && text.contains(" " + call + "`:"), true);
         }
     }
 
-    private static void exampleOfTheReadme() {
-        StepMachine x = new StepMachine();
-        x.segment(0, 0, 64, 5);
-        x.poke(0, 8, 0x1305700273000000L);
-        x.set(17, 10);
-        CHECK.due("run(100)", x.run(100), 2);
-        CHECK.due("state(0)", x.state(0), 8);
-        CHECK.due("state(2)", x.state(2), 39);
-        CHECK.due("back(1)", x.back(1), 1);
-        CHECK.due("state(0)", x.state(0), 0);
+    private static void classIsPublicAndFinal() {
+        CHECK.due("public final class", Modifier.toString(StepMachine.class.getModifiers()).equals("public final"), true);
+        CHECK.due("no package", StepMachine.class.getPackageName().isEmpty(), true);
+        CHECK.due("no class above it", StepMachine.class.getSuperclass() == Object.class, true);
+        CHECK.due("interfaces", StepMachine.class.getInterfaces().length, 0);
+    }
+
+    private static void constantIsNone() throws Exception {
+        CHECK.due("NONE", StepMachine.NONE, -1);
+        CHECK.due("NONE, as it is read", StepMachine.class.getField("NONE").getInt(null), -1);
+    }
+
+    private static void otherMembersArePrivate() {
+        for (Method m : StepMachine.class.getDeclaredMethods()) {
+            CHECK.due(m + " is public or private", Modifier.isPublic(m.getModifiers()) || Modifier.isPrivate(m.getModifiers()), true);
+        }
+        for (Field f : StepMachine.class.getDeclaredFields()) {
+            CHECK.due(f + " is private", Modifier.isPrivate(f.getModifiers()), !f.getName().equals("NONE"));
+        }
+        for (Class<?> c : StepMachine.class.getDeclaredClasses()) {
+            int is = c.getModifiers();
+            CHECK.due(c + " is hidden", Modifier.isPublic(is) || Modifier.isProtected(is), false);
+            CHECK.due(c + " is static", Modifier.isStatic(is), true);
+        }
+    }
+
+    private static void methodsThrowNothing() {
+        for (Method m : StepMachine.class.getDeclaredMethods()) {
+            CHECK.due(m + " throws", m.getExceptionTypes().length, 0);
+        }
     }
 }

@@ -12,6 +12,7 @@ final class MemorySentences {
     }
 
     void all() {
+        whatItIs();
         anObjectIsUsedFor512Calls();
         memoryHasItsEnds();
         memoryIsZeroAtFirst();
@@ -32,6 +33,45 @@ final class MemorySentences {
         inputHasAtMost1000();
         outputHasAtMost2000();
         noneInAndOutAtFirst();
+    }
+
+    /** Puts what it gets, up to an ecall of END at 18; LONG and SHORT words by turns. */
+    private static StepMachine echo() {
+        StepMachine x = new StepMachine();
+        Load.words(x, 0, Kinds.word("c.li", 17, 0, 0, 2), Load.ecall(), Kinds.word("blt", 0, 10, 0, 12),
+                Kinds.word("c.li", 17, 0, 0, 1), Load.ecall(), Kinds.word("c.j", 0, 0, 0, -16),
+                Kinds.word("c.li", 17, 0, 0, 10), Load.ecall());
+        x.input(2, 0x41f0L << 48);
+        x.marking(true);
+        x.mark(0, true);
+        return x;
+    }
+
+    private void whatItIs() {
+        s.says("What it is", "A machine of 32 bits that works by instruction words of 32 and 16 bits in a memory with rights,",
+                "with marks that jumps must go to, services for bytes in and out, places to halt at, and steps that can be taken back.");
+        StepMachine x = echo();
+        s.due("without rights: run(9)", x.run(9), 0);
+        s.dueState("without rights", x, 1, 0, 0, 0);
+        x.segment(0, 0, 24, 4);
+        x.set(33, 0);
+        x.halt(16, true);
+        s.due("to the halt: run(9)", x.run(9), 1);
+        s.dueState("to the halt", x, 9, 16, 16, 5);
+        s.due("output(0)", x.output(0), 0x41);
+        s.due("back(5)", x.back(5), 5);
+        s.dueState("taken back", x, 0, 0, 0, 0);
+        s.due("output(0)", x.output(0), -1);
+        s.due("once more: run(9)", x.run(9), 1);
+        s.due("on: run(9)", x.run(9), 1);
+        s.due("output(1)", x.output(1), 0xf0);
+        s.due("to where no mark is: run(9)", x.run(9), 1);
+        s.dueState("to where no mark is", x, 5, 18, 18, 15);
+        x.mark(18, true);
+        x.set(33, 0);
+        s.due("to the end: run(9)", x.run(9), 1);
+        s.dueState("to the end", x, 8, 20, 20, 17);
+        s.due("the VALUE", x.state(2), -1);
     }
 
     private void anObjectIsUsedFor512Calls() {

@@ -156,10 +156,28 @@ final class RunSentences {
         s.dueState("beyond memory", z, 9, SIZE, SIZE, 1);
         s.due("run(5) from there", z.run(5), 0);
         s.dueState("from there", z, 1, SIZE, SIZE, 1);
-        StepMachine e = Load.machine(Load.ebreak());
-        e.halt(0, true);
-        e.run(5);
-        s.dueState("an END at a HALT stays one", e, 6, 0, 0, 1);
+        endsAtAHaltStay();
+    }
+
+    /** In an END nothing more is done, so it is ahead of no step that a HALT could be asked for. */
+    private void endsAtAHaltStay() {
+        int[][] rows = {{0x0000, 0, 2}, {Kinds.word("lw", 0, 0, 0, 6), 0, 3}, {Kinds.word("sw", 0, 0, 0, 6), 0, 4},
+            {Load.jal(0, 0), 0, 5}, {Load.ebreak(), 0, 6}, {Load.ecall(), 0, 7}, {Load.ecall(), 10, 8}, {-1, 0, 1}};
+        for (int[] row : rows) {
+            StepMachine x = Load.machine(Load.nop(), Load.nop(), row[0]);
+            x.segment(0, 0, row[2] == 1 ? 4 : 4096, 7);
+            x.set(17, row[1]);
+            x.marking(true);
+            x.halt(4, true);
+            s.due("run(5) to the HALT", x.run(5), 0);
+            s.dueState("HALTED", x, 9, 4, 4, 2);
+            int steps = row[2] < 5 ? 2 : 3;
+            int culprit = row[2] == 3 || row[2] == 4 ? 6 : 4;
+            for (int k = 0; k < 2; k++) {
+                s.due("run(5) from the HALT", x.run(5), 0);
+                s.dueState("an END at a HALT", x, row[2], culprit, 4, steps);
+            }
+        }
     }
 
     private void runUntilAUnitAboveN() {

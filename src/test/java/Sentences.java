@@ -1,7 +1,3 @@
-import java.io.IOException;
-import java.nio.file.Files;
-import java.nio.file.Path;
-
 /**
  * The document's sentences. A test begins by quoting the one that it holds the class to; what is
  * not as due is told with that quote, and a quote that does not stand in the document, or words
@@ -9,8 +5,8 @@ import java.nio.file.Path;
  */
 final class Sentences {
 
+    // The public face is FaceTest's; what is not promised is free, so no test asks for it.
     private static final String[] HEADINGS = {"## What it is", "## Terms", "## Promise "};
-    private static final String FIRST_PARAGRAPH = "A machine of 32 bits that works by";
 
     private final Check check;
     private final String text;
@@ -20,16 +16,8 @@ final class Sentences {
 
     Sentences(String test) {
         check = new Check(test);
-        text = read(System.getProperty("document", "../shared/DOC.md"));
+        text = Document.text();
         isQuoted = new boolean[text.length()];
-    }
-
-    private static String read(String path) {
-        try {
-            return Files.readString(Path.of(path));
-        } catch (IOException e) {
-            throw new IllegalStateException("no document at " + path, e);
-        }
     }
 
     /** Says which words of the document, under which heading, the checks that follow are for. */
@@ -93,7 +81,7 @@ final class Sentences {
         for (String start : HEADINGS) {
             isUnderOne |= text.startsWith(start, heading);
         }
-        return isUnderOne && !line.startsWith("## ") && !line.startsWith("```") && !line.startsWith(FIRST_PARAGRAPH);
+        return isUnderOne && !line.startsWith("## ") && !line.startsWith("```");
     }
 
     /** What stands between ` and `: is the face of a call, which FaceTest looks at. */
